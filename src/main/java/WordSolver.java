@@ -1375,7 +1375,8 @@ public final class WordSolver {
         }
 
         int fixedBits(int node, boolean asValues) {
-            if (leastModel() == NONE) {
+            findModels();
+            if (least == NONE) {
                 return NONE;
             }
             int width = graph.width(node);
@@ -1450,37 +1451,40 @@ public final class WordSolver {
 
         /** The core, if there is no model. */
         int minimalConflict() {
-            fillRows();
+            long[] filled = filledRows();
             int left = fullWord(now.constraintCount);
             for (int k = 0; k < now.constraintCount; k++) {
                 int without = left & ~(1 << k);
-                if (isConflict(without)) {
+                if (isConflict(filled, without)) {
                     left = without;
                 }
             }
             return left;
         }
 
-        private void fillRows() {
-            if (rows == null) {
-                rows = new long[MAX_CONSTRAINTS * MAX_BLOCKS];
+        private long[] filledRows() {
+            long[] filled = rows;
+            if (filled == null) {
+                filled = new long[MAX_CONSTRAINTS * MAX_BLOCKS];
+                rows = filled;
             }
             long wanted = constraintCones();
             for (int block = 0; block < graph.blockCount(); block++) {
                 lanes.run(block, wanted);
                 for (int k = 0; k < now.constraintCount; k++) {
-                    rows[k * MAX_BLOCKS + block] = lanes.plane(now.constraintNodes[k], 0);
+                    filled[k * MAX_BLOCKS + block] = lanes.plane(now.constraintNodes[k], 0);
                 }
             }
+            return filled;
         }
 
-        private boolean isConflict(int chosen) {
+        private boolean isConflict(long[] filled, int chosen) {
             long mask = graph.blockMask();
             for (int block = 0; block < graph.blockCount(); block++) {
                 long left = mask;
                 for (int k = 0; k < now.constraintCount; k++) {
                     if ((chosen >> k & 1) != 0) {
-                        left &= rows[k * MAX_BLOCKS + block];
+                        left &= filled[k * MAX_BLOCKS + block];
                     }
                 }
                 if (left != 0) {
@@ -1580,10 +1584,10 @@ public final class WordSolver {
         }
 
         private void takeLeaf() {
-            if (text.at(position) == 'v' && isDigit(position + 1)) {
+            if (text.at(position) == 'v' && isDigit(text.at(position + 1))) {
                 position++;
                 addStep(VARIABLE, takeDigit(), NONE);
-            } else if (isDigit(position)) {
+            } else if (isDigit(text.at(position))) {
                 takeConstant();
             } else {
                 error = position;
@@ -1593,7 +1597,7 @@ public final class WordSolver {
         private void takeConstant() {
             int number = 0;
             int start = position;
-            while (position < text.length() && isDigit(position)) {
+            while (position < text.length() && isDigit(text.at(position))) {
                 if (position - start == 3) {
                     error = position;
                     return;
@@ -1648,13 +1652,13 @@ public final class WordSolver {
 
         /** A digit that stands alone; any other character, or a digit right behind it, is the error. */
         private int takeDigit() {
-            if (!isDigit(position)) {
+            if (!isDigit(text.at(position))) {
                 error = position;
                 return 0;
             }
             int digit = text.at(position) - '0';
             position++;
-            if (isDigit(position)) {
+            if (isDigit(text.at(position))) {
                 error = position;
             }
             return digit;
@@ -1676,14 +1680,13 @@ public final class WordSolver {
             }
         }
 
-        private boolean isDigit(int index) {
-            int c = text.at(index);
+        private static boolean isDigit(int c) {
             return c >= '0' && c <= '9';
         }
 
         private boolean isWordLetter(int index) {
             int c = text.at(index);
-            return c >= 'a' && c <= 'z' && !(c == 'v' && isDigit(index + 1));
+            return c >= 'a' && c <= 'z' && !(c == 'v' && isDigit(text.at(index + 1)));
         }
 
         /** Makes the nodes of the steps; the number of the last one, or NONE if one of them cannot be made. */

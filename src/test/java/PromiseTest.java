@@ -110,6 +110,9 @@ public final class PromiseTest {
         again.undo();
         again.variable(3);
         due("2: a new variable has the input 0", 0, again.value(0, false));
+        again.undo();
+        due("2: the first one undone", 0, again.variables());
+        dueIndex("2: no variable", () -> again.witness(0));
     }
 
     private static void promise3Constant() {
@@ -164,7 +167,8 @@ public final class PromiseTest {
             {10, 8, 128, 255, 255}, {10, 8, 127, 255, 0}, {10, 8, 128, 0, 128}, {10, 1, 1, 1, 1}, {10, 3, 4, 5, 7},
             {11, 4, 13, 4, 3}, {11, 4, 13, 0, 15}, {11, 8, 255, 16, 15}, {11, 8, 254, 255, 0}, {11, 8, 0, 0, 255},
             {11, 8, 255, 1, 255}, {11, 8, 200, 129, 1}, {11, 1, 0, 0, 1}, {11, 8, 255, 255, 1},
-            {12, 4, 13, 4, 1}, {12, 4, 13, 0, 13}, {12, 8, 255, 16, 15}, {12, 8, 254, 255, 254}, {12, 8, 0, 0, 0},
+            {11, 8, 100, 3, 33}, {11, 8, 77, 1, 77}, {11, 8, 64, 5, 12}, {11, 3, 5, 2, 2}, {12, 8, 100, 3, 1},
+            {12, 8, 77, 1, 0}, {12, 8, 64, 5, 4}, {12, 3, 5, 2, 1}, {12, 4, 13, 4, 1}, {12, 4, 13, 0, 13}, {12, 8, 255, 16, 15}, {12, 8, 254, 255, 254}, {12, 8, 0, 0, 0},
             {12, 8, 255, 1, 0}, {12, 8, 200, 129, 71}, {12, 8, 255, 128, 127}, {12, 1, 1, 0, 1},
             {13, 4, 9, 9, 1}, {13, 4, 9, 1, 0}, {13, 8, 0, 128, 0},
             {14, 4, 3, 9, 1}, {14, 4, 9, 3, 0}, {14, 4, 9, 9, 0}, {14, 8, 127, 128, 1}, {14, 1, 0, 1, 1},
@@ -517,6 +521,18 @@ public final class PromiseTest {
         due("16: the level is the latest one again", 2, x.push());
     }
 
+    private static void promise16PopAlone() {
+        WordSolver x = new WordSolver();
+        int a = x.variable(1);
+        x.push();
+        x.require(a);
+        due("16: the only constraint", 1, x.pop());
+        due("16: none is left", 0, x.constraints());
+        due("16: undoable", 3, x.undo());
+        due("16: it is back", 1, x.constraints());
+        due("16: its level is back", 2, x.push());
+    }
+
     private static void promise17Constraints() {
         WordSolver x = new WordSolver();
         int a = x.variable(1);
@@ -678,6 +694,22 @@ public final class PromiseTest {
         due("23: no model", -1, x.fixed(a, false));
         due("23: no model", -1, x.fixed(a, true));
         dueIndex("23: no model, no node", () -> x.fixed(99, true));
+        WordSolver z = new WordSolver();
+        int first = z.variable(8);
+        int second = z.variable(8);
+        due("23: a lowest bit 0", 1, z.fixed(z.binary(2, first, first), false));
+        due("23: its value", 0, z.fixed(z.binary(2, first, first), true));
+        int zero = z.constant(8, 0);
+        int full = z.constant(8, 255);
+        due("23: a constant without constraints", 255, z.fixed(full, false));
+        due("23: its value without constraints", 255, z.fixed(full, true));
+        int onlyFirst = z.binary(13, z.binary(6, first, second), zero);
+        int onlyLast = z.binary(13, z.binary(5, first, second), full);
+        due("23: another value in the first model alone", 0, z.fixed(onlyFirst, false));
+        due("23: another value in the last model alone", 0, z.fixed(onlyLast, false));
+        z.require(z.binary(14, first, z.constant(8, 2)));
+        due("23: below 2", 254, z.fixed(first, false));
+        due("23: now it is fixed", 1, z.fixed(onlyLast, false));
         WordSolver y = product();
         y.require(y.binary(13, 1, y.constant(4, 12)));
         due("23: x is 1, 5 or 9", 3, y.fixed(0, false));
@@ -730,6 +762,12 @@ public final class PromiseTest {
         }
         x.require(x.constant(1, 0));
         due("25: no model", 0, x.values(0, 200));
+        WordSolver one = new WordSolver();
+        one.variable(8);
+        one.require(one.binary(13, 0, one.constant(8, 64)));
+        due("25: one model", 1, one.values(0, 200));
+        due("25: its value", 64, one.valueAt(0, 0));
+        due("25: its fixed bits", 64, one.fixed(0, true));
         WordSolver y = new WordSolver();
         y.variable(8);
         y.variable(8);
@@ -1068,6 +1106,10 @@ public final class PromiseTest {
         x.append('0');
         due("36: asked anew", 2, x.syntaxError());
         due("36: the text stays", 3, x.clearText());
+        type(x, "(add (sub");
+        due("36: open parentheses", 9, x.syntaxError());
+        type(x, "v1");
+        due("36: are forgotten", -1, x.syntaxError());
     }
 
     private static int readText(WordSolver x, String text) {
@@ -1213,6 +1255,7 @@ public final class PromiseTest {
         int sliced = w.slice(chain, 0, 0);
         dueState("38: 121 characters", () -> w.write(sliced));
         due("38: the text stays", 118, w.clearText());
+        promise38Numbers();
         dueState("38: not undoable", () -> {
             WordSolver u = new WordSolver();
             u.constant(1, 1);
@@ -1222,6 +1265,30 @@ public final class PromiseTest {
             u.undo();
             return u.undo();
         });
+    }
+
+    /** A node whose description has 10 characters, 8 more for each "(or .. v0)" and 9 more for each "(add .. v0)". */
+    private static int chain(WordSolver x, int ors, int adds) {
+        int node = x.binary(6, x.variable(8), 0);
+        for (int k = 0; k < ors + adds; k++) {
+            node = x.binary(k < ors ? 6 : 2, node, 0);
+        }
+        return node;
+    }
+
+    private static void promise38Numbers() {
+        WordSolver x = new WordSolver();
+        int node = chain(x, 8, 4);
+        due("38: 110 characters", 110, x.write(node));
+        due("38: a number of two digits makes 120", 120, x.write(x.binary(6, node, x.constant(8, 99))));
+        int three = x.binary(6, node, x.constant(8, 100));
+        dueState("38: a number of three digits makes 121", () -> x.write(three));
+        WordSolver y = new WordSolver();
+        int other = chain(y, 7, 5);
+        due("38: 111 characters", 111, y.write(other));
+        due("38: a number of one digit makes 120", 120, y.write(y.binary(6, other, y.constant(8, 9))));
+        int two = y.binary(6, other, y.constant(8, 10));
+        dueState("38: a number of two digits makes 121", () -> y.write(two));
     }
 
     private static void promise39Character() {
@@ -1298,6 +1365,33 @@ public final class PromiseTest {
         due("40: its words", 128, z.values(1, 200));
         due("40: ordered anew", 127, z.extremeWitness(1, true, 1));
         due("40: 2 + 7 bits", 200, z.models(200));
+    }
+
+    private static void promise40UndoOverwritten() {
+        WordSolver x = new WordSolver();
+        int a = x.variable(1);
+        int not = x.unary(19, a);
+        x.push();
+        x.push();
+        x.require(a);
+        x.pop();
+        x.require(not);
+        due("40: another constraint in its place", not, x.constraint(0, false));
+        due("40: of another level", 1, x.constraint(0, true));
+        x.undo();
+        x.undo();
+        due("40: the first one is back", a, x.constraint(0, false));
+        due("40: its level is back", 2, x.constraint(0, true));
+        x.undo();
+        x.wish(a, 2);
+        x.clearWishes();
+        x.wish(not, 7);
+        due("40: another wish in its place", 7, x.gain());
+        due("40: another wish in its place", 0, x.bestWitness(0));
+        x.undo();
+        x.undo();
+        due("40: its weight is back", 2, x.gain());
+        due("40: its node is back", 1, x.bestWitness(0));
     }
 
     /** The document's rule, told with the methods of the face; levels, wishes and saved states are told by the test. */
@@ -1392,6 +1486,7 @@ public final class PromiseTest {
         promise14Require();
         promise15Push();
         promise16Pop();
+        promise16PopAlone();
         promise17Constraints();
         promise18Constraint();
         promise19Satisfiable();
@@ -1419,6 +1514,7 @@ public final class PromiseTest {
         promise38Write();
         promise39Character();
         promise40Undo();
+        promise40UndoOverwritten();
         promise41Digest();
     }
 
