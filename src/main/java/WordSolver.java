@@ -926,11 +926,7 @@ public final class WordSolver {
         }
 
         void setGoalToDifference(int first, int second) {
-            long differs = 0;
-            for (int j = 0; j < graph.get(first, WIDTH); j++) {
-                differs |= plane(first, j) ^ plane(second, j);
-            }
-            planes[GOAL] = differs;
+            planes[GOAL] = differs(first * MAX_WIDTH, second * MAX_WIDTH, graph.get(first, WIDTH));
         }
 
         void setGoalToGain(State state) {
@@ -1148,11 +1144,11 @@ public final class WordSolver {
         }
 
         private long differs(int a, int b, int width) {
-            long differs = 0;
+            long any = 0;
             for (int j = 0; j < width; j++) {
-                differs |= planes[a + j] ^ planes[b + j];
+                any |= planes[a + j] ^ planes[b + j];
             }
-            return differs;
+            return any;
         }
 
         /** Signed words compare as unsigned ones do when their highest bits are turned over. */
