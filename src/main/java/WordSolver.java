@@ -373,7 +373,7 @@ public final class WordSolver {
             throw new IllegalStateException("the description is too long");
         }
         text.empty();
-        writer.describe(node, 0);
+        writer.describe(node);
         return text.length();
     }
 
@@ -1763,7 +1763,11 @@ public final class WordSolver {
         }
 
         /** Only for descriptions that are not too long: their length keeps the depth below the number of nodes. */
-        void describe(int node, int depth) {
+        void describe(int node) {
+            describePart(node, 0);
+        }
+
+        private void describePart(int node, int depth) {
             if (depth > MAX_NODES) {
                 return;
             }
@@ -1776,15 +1780,19 @@ public final class WordSolver {
                 text.add(':');
                 addNumber(graph.width(node));
             } else {
-                text.add('(');
-                addWord(kind);
-                for (int k = 0; k < Kinds.operandCount(kind); k++) {
-                    text.add(' ');
-                    describe(graph.get(node, FIRST + k), depth + 1);
-                }
-                addDigits(node, kind);
-                text.add(')');
+                describeWithOperands(node, kind, depth);
             }
+        }
+
+        private void describeWithOperands(int node, int kind, int depth) {
+            text.add('(');
+            addWord(kind);
+            for (int k = 0; k < Kinds.operandCount(kind); k++) {
+                text.add(' ');
+                describePart(graph.get(node, FIRST + k), depth + 1);
+            }
+            addDigits(node, kind);
+            text.add(')');
         }
 
         private void addWord(int kind) {

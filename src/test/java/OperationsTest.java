@@ -1,6 +1,6 @@
 /** The values of all nodes with two operands of the same width, for all widths and all words. */
 public final class OperationsTest {
-    /** An object is good for 512 calls; a pair of words takes 2 inputs and a value for each of the kinds 2 to 18. */
+    /** An object is good for 512 calls; a pair of words takes 2 inputs, the number of nodes and the values of 17. */
     private static final int PAIRS = 24;
 
     private static int signed(int word, int width) {
@@ -62,7 +62,8 @@ public final class OperationsTest {
     private static boolean good(WordSolver x, int width, int a, int b) {
         x.input(0, a);
         x.input(1, b);
-        for (int node = 2; node < x.nodes(); node++) {
+        int nodes = x.nodes();
+        for (int node = 2; node < nodes; node++) {
             if (x.value(node, false) != expected(node, width, a, b)) {
                 System.out.println("kind " + node + " of " + a + " and " + b + " in " + width + " bits is "
                         + x.value(node, false));

@@ -1,7 +1,7 @@
 /** For each promise of the document what it says, its edges and wrong inputs; the dues were counted by hand. */
 public final class PromiseTest {
-    private static final int MIN = Integer.MIN_VALUE;
-    private static final int MAX = Integer.MAX_VALUE;
+    private static final int MIN = Solvers.MIN;
+    private static final int MAX = Solvers.MAX;
     private static final Check CHECK = new Check();
 
     private static void due(String what, long want, long got) {
@@ -22,21 +22,6 @@ public final class PromiseTest {
 
     private static void dueState(String what, Check.Call call) {
         CHECK.stateThrown(what, call);
-    }
-
-    private static void type(WordSolver x, String text) {
-        x.clearText();
-        for (int i = 0; i < text.length(); i++) {
-            x.append(text.charAt(i));
-        }
-    }
-
-    private static String textOf(WordSolver x) {
-        StringBuilder all = new StringBuilder();
-        for (int i = 0; x.character(i) != WordSolver.NONE && i < 200; i++) {
-            all.append((char) x.character(i));
-        }
-        return all.toString();
     }
 
     /** An object with full room for nodes: variable 0 of the width 8, then the constants 0:8 to 38:8. */
@@ -991,7 +976,7 @@ public final class PromiseTest {
     private static void promise35ClearText() {
         WordSolver x = new WordSolver();
         due("35: empty", 0, x.clearText());
-        type(x, "v0 ");
+        Solvers.type(x, "v0 ");
         due("35: three characters", 3, x.clearText());
         due("35: empty again", 0, x.clearText());
         due("35: no character", -1, x.character(0));
@@ -1002,7 +987,7 @@ public final class PromiseTest {
 
     private static void dueSyntax(String text, int position) {
         WordSolver x = new WordSolver();
-        type(x, text);
+        Solvers.type(x, text);
         due("36: \"" + text + "\"", position, x.syntaxError());
     }
 
@@ -1101,35 +1086,30 @@ public final class PromiseTest {
         }
         dueSyntax(deep.toString(), 120);
         WordSolver x = new WordSolver();
-        type(x, "v0");
+        Solvers.type(x, "v0");
         x.syntaxError();
         x.append('0');
         due("36: asked anew", 2, x.syntaxError());
         due("36: the text stays", 3, x.clearText());
-        type(x, "(add (sub");
+        Solvers.type(x, "(add (sub");
         due("36: open parentheses", 9, x.syntaxError());
-        type(x, "v1");
+        Solvers.type(x, "v1");
         due("36: are forgotten", -1, x.syntaxError());
-    }
-
-    private static int readText(WordSolver x, String text) {
-        type(x, text);
-        return x.read();
     }
 
     private static void promise37Read() {
         WordSolver x = new WordSolver();
         x.variable(4);
         x.variable(4);
-        due("37: a variable", 1, readText(x, "v1"));
+        due("37: a variable", 1, Solvers.read(x, "v1"));
         due("37: undoable, also if nothing changes", 2, x.undo());
-        due("37: the sum is the last node", 4, readText(x, "(add (not v1) 5:4)"));
+        due("37: the sum is the last node", 4, Solvers.read(x, "(add (not v1) 5:4)"));
         due("37: from left to right", 19, x.info(2, 0));
         due("37: from left to right", 0, x.info(3, 0));
         due("37: from left to right", 2, x.info(4, 2));
         due("37: from left to right", 3, x.info(4, 3));
         due("37: the text stays", 18, x.clearText());
-        due("37: nodes are not made twice", 4, readText(x, " ( add(notv1)005:4 )"));
+        due("37: nodes are not made twice", 4, Solvers.read(x, " ( add(notv1)005:4 )"));
         due("37: nodes", 5, x.nodes());
         x.undo();
         due("37: undo takes back all nodes", 2, x.undo());
@@ -1139,47 +1119,59 @@ public final class PromiseTest {
             "(le v0 v1)", "(slt v0 v1)", "(sle v0 v1)", "(cat v0 v1)", "(not v0)", "(neg v0)", "(slice v0 3 1)",
             "(zext v0 8)", "(sext v0 5)", "(ite (eq v0 v1) v0 v1)"};
         for (int k = 0; k < texts.length; k++) {
-            int node = readText(x, texts[k]);
+            int node = Solvers.read(x, texts[k]);
             due("37: " + texts[k], k + 2, x.info(node, 0));
         }
         due("37: all of them", 25, x.nodes());
-        due("37: high", 3, x.info(readText(x, "(slice v0 3 1)"), 6));
-        due("37: low", 1, x.info(readText(x, "(slice v0 3 1)"), 7));
-        due("37: width", 8, x.info(readText(x, "(zext v0 8)"), 1));
-        due("37: width", 5, x.info(readText(x, "(sext v0 5)"), 1));
-        due("37: operands of a choice", 1, x.info(readText(x, "(ite (eq v0 v1) v0 v1)"), 4));
+        due("37: high", 3, x.info(Solvers.read(x, "(slice v0 3 1)"), 6));
+        due("37: low", 1, x.info(Solvers.read(x, "(slice v0 3 1)"), 7));
+        due("37: width", 8, x.info(Solvers.read(x, "(zext v0 8)"), 1));
+        due("37: width", 5, x.info(Solvers.read(x, "(sext v0 5)"), 1));
+        due("37: operands of a choice", 1, x.info(Solvers.read(x, "(ite (eq v0 v1) v0 v1)"), 4));
+        promise37Refused();
+        promise37Full();
+    }
+
+    private static void promise37Refused() {
+        WordSolver x = new WordSolver();
+        x.variable(4);
+        x.variable(4);
+        Solvers.type(x, "v0");
         long before = x.digest();
         String[] impossible = {"v2", "5:0", "5:9", "16:4", "256:8", "(add v0 1:1)", "(add 1:1 v0)", "(cat v0 1:5)",
             "(slice v0 4 0)", "(slice v0 0 1)", "(zext v0 4)", "(sext v0 9)", "(zext v0 0)", "(ite v0 v0 v1)",
             "(ite 1:1 v0 1:1)", "(add (neg (neg v0)) v9)", "(not (add 6:4 7:5))"};
         for (String text : impossible) {
-            type(x, text);
+            Solvers.type(x, text);
             dueState("37: " + text, x::read);
         }
-        type(x, "(ite (eq v0 v1) v0 v1)");
+        Solvers.type(x, "v0");
         due("37: what throws changes nothing", before, x.digest());
         for (String text : new String[] {"", "v", "(add v0 v1", "(foo v0)", "v7 v"}) {
-            type(x, text);
+            Solvers.type(x, text);
             dueArgument("37: syntax error in \"" + text + "\"", x::read);
         }
+    }
+
+    private static void promise37Full() {
         WordSolver f = full();
-        due("37: a full object still has its nodes", 8, readText(f, "7:8"));
-        type(f, "(add v0 7:8)");
+        due("37: a full object still has its nodes", 8, Solvers.read(f, "7:8"));
+        Solvers.type(f, "(add v0 7:8)");
         dueState("37: 40 nodes", f::read);
         f.undo();
         f.undo();
         due("37: room for one", 39, f.nodes());
-        type(f, "(neg (not v0))");
+        Solvers.type(f, "(neg (not v0))");
         dueState("37: two nodes are too many", f::read);
         due("37: then no node is made", 39, f.nodes());
-        due("37: one node is not", 39, readText(f, "(add v0 7:8)"));
+        due("37: one node is not", 39, Solvers.read(f, "(add v0 7:8)"));
         due("37: one saved state a call", 3, f.undo());
         due("37: undone", 39, f.nodes());
     }
 
     private static void dueWritten(String text, WordSolver x, int node) {
         due("38: length of " + text, text.length(), x.write(node));
-        CHECK.same("38: " + text, text, textOf(x));
+        CHECK.same("38: " + text, text, Solvers.textOf(x));
         due("38: read again", node, x.read());
     }
 
@@ -1205,14 +1197,25 @@ public final class PromiseTest {
         dueWritten("0:8", x, x.constant(8, 0));
         dueWritten("(ite (eq v0 5:8) v1 v1)", x, x.choice(x.binary(13, a, c), b, b));
         dueWritten("(cat v1 v1)", x, x.binary(18, b, b));
+        for (int node : new int[] {-1, x.nodes(), 40, MIN, MAX}) {
+            dueIndex("38: node " + node, () -> x.write(node));
+        }
+        promise38Words();
+        promise38Lengths();
+        promise38Numbers();
+    }
+
+    private static void promise38Words() {
+        WordSolver x = new WordSolver();
+        int a = x.variable(8);
         String[] words = {"sub", "mul", "and", "or", "xor", "shl", "shr", "sar", "div", "rem", "eq", "lt", "le", "slt",
             "sle"};
         for (int k = 0; k < words.length; k++) {
             dueWritten("(" + words[k] + " v0 v0)", x, x.binary(3 + k, a, a));
         }
-        for (int node : new int[] {-1, x.nodes(), 40, MIN, MAX}) {
-            dueIndex("38: node " + node, () -> x.write(node));
-        }
+    }
+
+    private static void promise38Lengths() {
         WordSolver y = new WordSolver();
         int node = y.variable(4);
         for (int k = 0; k < 39; k++) {
@@ -1255,7 +1258,6 @@ public final class PromiseTest {
         int sliced = w.slice(chain, 0, 0);
         dueState("38: 121 characters", () -> w.write(sliced));
         due("38: the text stays", 118, w.clearText());
-        promise38Numbers();
         dueState("38: not undoable", () -> {
             WordSolver u = new WordSolver();
             u.constant(1, 1);
@@ -1293,7 +1295,7 @@ public final class PromiseTest {
 
     private static void promise39Character() {
         WordSolver x = new WordSolver();
-        type(x, "(~ ");
+        Solvers.type(x, "(~ ");
         due("39: first", 40, x.character(0));
         due("39: second", 126, x.character(1));
         due("39: third", 32, x.character(2));
@@ -1394,37 +1396,6 @@ public final class PromiseTest {
         due("40: its node is back", 1, x.bestWitness(0));
     }
 
-    /** The document's rule, told with the methods of the face; levels, wishes and saved states are told by the test. */
-    private static long digestBy(WordSolver x, int level, int[][] wishes, int length, int saved) {
-        long h = 31 * 1862 + x.nodes();
-        for (int node = 0; node < x.nodes(); node++) {
-            for (int what = 0; what <= 8; what++) {
-                h = 31 * h + x.info(node, what);
-            }
-            h = 31 * h + x.value(node, false);
-        }
-        for (int node = 0; node < x.nodes(); node++) {
-            if (x.info(node, 0) == 1) {
-                h = 31 * h + x.value(node, false);
-            }
-        }
-        h = 31 * h + x.constraints();
-        for (int k = 0; k < x.constraints(); k++) {
-            h = 31 * (31 * h + x.constraint(k, false)) + x.constraint(k, true);
-        }
-        h = 31 * h + level;
-        h = 31 * h + wishes.length;
-        for (int[] wish : wishes) {
-            h = 31 * (31 * h + wish[0]) + wish[1];
-        }
-        h = 31 * h + (x.satisfiable() ? 1 : 0);
-        for (int v = 0; v < x.variables(); v++) {
-            h = 31 * h + x.witness(v);
-        }
-        h = 31 * h + length;
-        return 31 * h + saved;
-    }
-
     private static void promise41Digest() {
         WordSolver x = new WordSolver();
         // 1862, then 0 nodes, 0 constraints, level 0, 0 wishes, 1, length 0, 0 states
@@ -1437,7 +1408,7 @@ public final class PromiseTest {
         x.choice(less, a, c);
         x.input(0, 5);
         x.input(1, 30);
-        due("41: nodes and inputs", digestBy(x, 0, new int[0][], 0, 5), x.digest());
+        due("41: nodes and inputs", Solvers.digestBy(x, 0, new int[0][], 0, 5), x.digest());
         x.require(not);
         x.push();
         x.push();
@@ -1445,14 +1416,25 @@ public final class PromiseTest {
         x.wish(less, 4);
         x.wish(not, 9);
         int[][] wishes = {{less, 4}, {not, 9}};
-        due("41: constraints, levels and wishes", digestBy(x, 2, wishes, 0, 5), x.digest());
+        due("41: constraints, levels and wishes", Solvers.digestBy(x, 2, wishes, 0, 5), x.digest());
         x.write(less);
-        due("41: text", digestBy(x, 2, wishes, 11, 5), x.digest());
+        due("41: text", Solvers.digestBy(x, 2, wishes, 11, 5), x.digest());
         x.undo();
-        due("41: saved states", digestBy(x, 2, new int[][] {{less, 4}}, 11, 4), x.digest());
+        due("41: saved states", Solvers.digestBy(x, 2, new int[][] {{less, 4}}, 11, 4), x.digest());
         due("41: asking changes nothing", x.digest(), x.digest());
+    }
+
+    private static void promise41NoModel() {
+        WordSolver x = new WordSolver();
+        int a = x.variable(3);
+        int less = x.binary(14, a, x.constant(3, 6));
+        x.push();
+        x.push();
+        x.require(less);
+        x.wish(less, 4);
+        x.write(less);
         x.require(x.constant(1, 0));
-        due("41: no model", digestBy(x, 2, new int[][] {{less, 4}}, 11, 5), x.digest());
+        due("41: no model", Solvers.digestBy(x, 2, new int[][] {{less, 4}}, 11, 5), x.digest());
         long before = x.digest();
         Check.outcome(() -> x.require(a));
         Check.outcome(() -> x.read());
@@ -1461,7 +1443,7 @@ public final class PromiseTest {
         x.core();
         x.gain();
         x.values(a, 3);
-        due("41: what throws or asks changes nothing, but read()", digestBy(x, 2, new int[][] {{less, 4}}, 11, 5),
+        due("41: what throws or asks changes nothing, but read()", Solvers.digestBy(x, 2, new int[][] {{less, 4}}, 11, 5),
                 x.digest());
         due("41: saved states are as many as before", before, x.digest());
     }
@@ -1516,6 +1498,7 @@ public final class PromiseTest {
         promise40Undo();
         promise40UndoOverwritten();
         promise41Digest();
+        promise41NoModel();
     }
 
     public static void main(String[] args) {
