@@ -10,15 +10,20 @@ public final class RandomRunsTest {
         "eq", "lt", "le", "slt", "sle", "cat", "not", "neg", "slice", "zext", "sext", "ite"};
     private static final String SIGNS = "v0123456789:() abdeilmnoqrstux~!\"";
 
+    /** Of an object; what later calls answer is free. */
+    private static final int MOST_CALLS = 512;
+
     private final Random random;
     private final WordSolver solver = new WordSolver();
     private final Reference reference = new Reference();
     private final List<String> log = new ArrayList<>();
     private final boolean wide;
+    private final int calls;
 
-    private RandomRunsTest(long seed, boolean wide) {
+    private RandomRunsTest(long seed, boolean wide, int calls) {
         this.random = new Random(seed);
         this.wide = wide;
+        this.calls = calls;
     }
 
     private int below(int n) {
@@ -74,6 +79,9 @@ public final class RandomRunsTest {
     }
 
     private boolean compare(String name, Check.Call first, Check.Call second) {
+        if (log.size() >= MOST_CALLS) {
+            return true;
+        }
         String want = Check.outcome(second);
         String got = Check.outcome(first);
         log.add(name + " -> " + want);
@@ -359,7 +367,6 @@ public final class RandomRunsTest {
         for (int k = 0; k < nodesFirst && good; k++) {
             good = makeNode();
         }
-        int calls = wide ? 40 : 150;
         while (good && log.size() < calls) {
             good = step() && (below(wide ? 9 : 5) > 0 || digest());
         }
@@ -369,12 +376,17 @@ public final class RandomRunsTest {
     public static void main(String[] args) {
         int narrowRuns = args.length > 0 ? Integer.parseInt(args[0]) : 1500;
         int wideRuns = args.length > 1 ? Integer.parseInt(args[1]) : 60;
+        int longRuns = args.length > 2 ? Integer.parseInt(args[2]) : 150;
         Check check = new Check();
         for (int seed = 0; seed < narrowRuns; seed++) {
-            check.due("run with seed " + seed, true, new RandomRunsTest(seed, false).run());
+            check.due("run with seed " + seed, true, new RandomRunsTest(seed, false, 150).run());
         }
         for (int seed = 0; seed < wideRuns; seed++) {
-            check.due("wide run with seed " + seed, true, new RandomRunsTest(1_000_000 + seed, true).run());
+            check.due("wide run with seed " + seed, true, new RandomRunsTest(1_000_000 + seed, true, 40).run());
+        }
+        for (int seed = 0; seed < longRuns; seed++) {
+            check.due("long run with seed " + seed, true,
+                    new RandomRunsTest(2_000_000 + seed, false, MOST_CALLS).run());
         }
         check.close("random runs");
     }
